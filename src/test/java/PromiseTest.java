@@ -302,6 +302,14 @@ public final class PromiseTest {
         Check.due("13: water stays until it settles", 8, () -> map.water(3, 3));
         Check.due("13: settle", "0 0 5 0 8", () -> map.settle() + " " + map.water(3, 3) + " " + map.water(3, 4)
                 + " " + map.water(4, 3) + " " + map.water(5, 3));
+        DustSheetMap edge = new DustSheetMap();
+        edge.pour(0, 0, 6);
+        Check.due("39: standing on the first cell", 6, () -> edge.standing());
+        edge.setHeight(0, 1, 49);
+        Check.due("13: from the first cell", "0 0 6", () -> edge.settle() + " " + edge.water(0, 0) + " " + edge.water(0, 1));
+        edge.pour(5, 5, 2);
+        edge.setHeight(5, 4, 49);
+        Check.due("13: from the last cell", "0 0 2", () -> edge.settle() + " " + edge.water(5, 5) + " " + edge.water(5, 4));
         DustSheetMap holed = new DustSheetMap();
         holed.pour(2, 2, 9);
         holed.pour(1, 1, 4);
@@ -402,10 +410,23 @@ public final class PromiseTest {
         spillIs(map, 1, 2, 80);
         noSuchCells("20: spillLevel", (row, column) -> map.spillLevel(row, column));
         noSuchCells("21: spillLevelByRounds", (row, column) -> map.spillLevelByRounds(row, column));
-        DustSheetMap low = new DustSheetMap();
-        low.setHeight(0, 3, 0);
-        spillIs(low, 0, 3, 0);
-        spillIs(low, 1, 3, 50);
+        for (int[] cell : new int[][] {{0, 3}, {2, 5}, {5, 1}, {4, 0}}) {
+            DustSheetMap low = new DustSheetMap();
+            low.setHeight(cell[0], cell[1], 0);
+            spillIs(low, cell[0], cell[1], 0);
+            spillIs(low, 1, 3, 50);
+        }
+        Check.due("20: no row or column beside the border is one", 50, () -> mapWithPits().spillLevel(1, 1));
+        Check.due("21: the first call", 50, () -> mapWithPits().spillLevelByRounds(1, 1));
+        Check.due("21: the first call", 50, () -> mapWithPits().spillLevelByRounds(4, 4));
+        Check.due("20: the first call", 50, () -> mapWithPits().spillLevel(4, 4));
+    }
+
+    private static DustSheetMap mapWithPits() {
+        DustSheetMap map = new DustSheetMap();
+        map.setHeight(1, 1, 10);
+        map.setHeight(4, 4, 10);
+        return map;
     }
 
     private static void ponds() {
@@ -453,6 +474,16 @@ public final class PromiseTest {
         routeIs(steep, 1, 12, 2, 0);
         // The cheapest route is one step of 99, the least steep one goes up from the 70.
         routeIs(steep, 0, 1, 100, 29);
+        Check.due("24: the first call", 178, () -> copyOf(steep).routeCostByRounds(0, 0, 0, 2));
+        Check.due("24: a new beginning", "108 178 42", () -> steep.routeCostByRounds(5, 3, 0, 0) + " "
+                + steep.routeCostByRounds(0, 2, 0, 0) + " " + steep.routeCostByRounds(5, 1, 5, 3));
+        for (int step = 0; step <= 49; step++) {
+            DustSheetMap corner = new DustSheetMap();
+            if (step > 0) {
+                corner.setHeight(0, 0, 50 + step);
+            }
+            routeIs(corner, 0, 1, 1 + step, step);
+        }
         DustSheetMap cliff = new DustSheetMap();
         cliff.setHeight(0, 0, 0);
         cliff.setHeight(0, 1, 99);
@@ -463,6 +494,14 @@ public final class PromiseTest {
             noRouteCell(map, cell[0], cell[1], 0, 0);
             noRouteCell(map, 0, 0, cell[0], cell[1]);
         }
+    }
+
+    private static DustSheetMap copyOf(DustSheetMap map) {
+        StringBuilder picture = new StringBuilder();
+        for (int i = 0; i < 36; i++) {
+            picture.append(map.height(i / 6, i % 6)).append(' ');
+        }
+        return mapOf(picture.toString());
     }
 
     private static void noRouteCell(DustSheetMap map, int r, int c, int tr, int tc) {
@@ -572,6 +611,11 @@ public final class PromiseTest {
         Check.due("30: no wear", DENIED, () -> map.patch(0, 0));
         Check.due("30: denial", "4 1", () -> map.denial() + " " + map.denialDetail());
         Check.due("35: holes", 1, () -> map.holes());
+        Check.due("35: holes in the first and the last cell", 2, () -> {
+            DustSheetMap corners = withHole(0, 0);
+            makeHole(corners, 5, 5);
+            return corners.holes();
+        });
         Check.due("30: patch", 3, () -> map.patch(3, 3));
         Check.due("35: holes", "0 0", () -> map.holes() + " " + map.wear(3, 3));
         Check.due("30: patched", DENIED, () -> map.patch(3, 3));
