@@ -190,6 +190,8 @@ public final class PromiseTest {
         Check.due("4: not pegged", DENIED, () -> map.unpeg(0, 5));
         Check.due("4: denial", "2 1", () -> map.denial() + " " + map.denialDetail());
         Check.due("4: unpeg", 0, () -> map.unpeg(5, 0));
+        Check.due("3: the first and the last cell", "1 2 1 0", () -> map.peg(0, 0) + " " + map.peg(5, 5) + " "
+                + map.unpeg(5, 5) + " " + map.unpeg(0, 0));
         noSuchCells("3: peg", (row, column) -> map.peg(row, column));
         noSuchCells("4: unpeg", (row, column) -> map.unpeg(row, column));
         noSuchCells("7: isPegged", (row, column) -> map.isPegged(row, column));
@@ -264,6 +266,16 @@ public final class PromiseTest {
         }
         DustSheetMap holed = withHole(2, 2);
         islandsAre(holed, 50, 1);
+        DustSheetMap corner = new DustSheetMap();
+        corner.setHeight(0, 0, 10);
+        corner.setHeight(0, 1, 60);
+        corner.setHeight(1, 0, 60);
+        islandsAre(corner, 10, 1);
+        islandsAre(corner, 60, 2);
+        corner.setHeight(0, 0, 99);
+        islandsAre(corner, 99, 1);
+        corner.setHeight(5, 5, 99);
+        islandsAre(corner, 99, 2);
     }
 
     private static void pouring() {
@@ -416,6 +428,10 @@ public final class PromiseTest {
             spillIs(low, cell[0], cell[1], 0);
             spillIs(low, 1, 3, 50);
         }
+        DustSheetMap peak = new DustSheetMap();
+        peak.setHeight(2, 2, 99);
+        spillIs(peak, 2, 2, 99);
+        spillIs(peak, 2, 1, 50);
         Check.due("20: no row or column beside the border is one", 50, () -> mapWithPits().spillLevel(1, 1));
         Check.due("21: the first call", 50, () -> mapWithPits().spillLevelByRounds(1, 1));
         Check.due("21: the first call", 50, () -> mapWithPits().spillLevelByRounds(4, 4));
@@ -523,6 +539,11 @@ public final class PromiseTest {
         routeIs(map, 11, 0, NO_ELEMENT, NO_ELEMENT);
         routeIs(map, 0, 0, 0, 0);
         routeIs(map, 2, 20, 4, 0);
+        DustSheetMap wall = withHole(1, 1);
+        wall.setHeight(0, 0, 80);
+        wall.setHeight(2, 0, 99);
+        routeIs(wall, 1, 10, 62, 30);
+        routeIs(wall, 10, 1, 62, 30);
         Check.due("23: the cell is looked at first", NO_INDEX, () -> map.routeCost(0, 1, 0, 6));
         Check.due("25: the cell is looked at first", NO_INDEX, () -> map.steepestStep(0, 1, 0, 6));
     }
