@@ -457,13 +457,13 @@ public final class DustSheetMap {
         int column = cell % SIDE;
         switch (direction) {
             case 0:
-                return cellOf(row - 1, column);
+                return row == 0 ? NONE : cell - SIDE;
             case 1:
-                return cellOf(row, column + 1);
+                return column == SIDE - 1 ? NONE : cell + 1;
             case 2:
-                return cellOf(row + 1, column);
+                return row == SIDE - 1 ? NONE : cell + SIDE;
             default:
-                return cellOf(row, column - 1);
+                return column == 0 ? NONE : cell - 1;
         }
     }
 

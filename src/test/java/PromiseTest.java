@@ -1,20 +1,5 @@
 /** The promises of the document, one after the other: ordinary inputs, edges and wrong inputs. */
-public final class PromiseTest {
-    private static final int LEAST = Integer.MIN_VALUE;
-    private static final int MOST = Integer.MAX_VALUE;
-    private static final String NO_INDEX = "throws.IndexOutOfBoundsException";
-    private static final String BAD_ARGUMENT = "throws.IllegalArgumentException";
-    private static final String DENIED = "throws.UnsupportedOperationException";
-    private static final String NO_ELEMENT = "throws.NoSuchElementException";
-    private static final String BAD_STATE = "throws.IllegalStateException";
-    /** Rows and columns of which at least one does not exist. */
-    private static final int[][] NO_CELLS = {{-1, 0}, {0, -1}, {6, 0}, {0, 6}, {5, 6}, {6, 5}, {LEAST, MOST}, {MOST, LEAST}};
-
-    /** A call that takes a cell. */
-    private interface CellCall {
-        Object run(int row, int column);
-    }
-
+public final class PromiseTest extends MapFixture {
     public static void main(String[] args) {
         newObject();
         heights();
@@ -46,85 +31,6 @@ public final class PromiseTest {
         undoOfEachChange();
         snapshots();
         Check.end();
-    }
-
-    private static void noSuchCells(String what, CellCall call) {
-        for (int[] cell : NO_CELLS) {
-            Check.due(what + "(" + cell[0] + ", " + cell[1] + ")", NO_INDEX, () -> call.run(cell[0], cell[1]));
-        }
-    }
-
-    /** A map with the heights of a picture: six rows of six numbers. */
-    private static DustSheetMap mapOf(String picture) {
-        DustSheetMap map = new DustSheetMap();
-        String[] numbers = picture.trim().split("\\s+");
-        for (int i = 0; i < 36; i++) {
-            if (Integer.parseInt(numbers[i]) != 50) {
-                map.setHeight(i / 6, i % 6, Integer.parseInt(numbers[i]));
-            }
-        }
-        return map;
-    }
-
-    private static String rowOf(DustSheetMap map, int row) {
-        int length = map.writeRow(row);
-        return lineOf(map, length);
-    }
-
-    private static String lineOf(DustSheetMap map, int length) {
-        StringBuilder line = new StringBuilder();
-        for (int i = 0; i < length; i++) {
-            line.append(map.lineCharacter(i));
-        }
-        return line.toString();
-    }
-
-    private static String sheetOf(DustSheetMap map) {
-        StringBuilder sheet = new StringBuilder();
-        for (int row = 0; row < 6; row++) {
-            sheet.append(rowOf(map, row)).append('/');
-            for (int column = 0; column < 6; column++) {
-                sheet.append(map.water(row, column)).append(',').append(map.wear(row, column)).append(' ');
-            }
-        }
-        for (int moth = 0; moth < map.mothCount(); moth++) {
-            sheet.append(map.mothRow(moth)).append(map.mothColumn(moth)).append(' ');
-        }
-        return sheet.append(map.nights()).append(' ').append(map.poured()).append(' ').append(map.standing())
-                .append(' ').append(map.drained()).toString();
-    }
-
-    private static void feed(DustSheetMap map, String text) {
-        for (int i = 0; i < text.length(); i++) {
-            map.feed(text.charAt(i));
-        }
-    }
-
-    private static Object run(DustSheetMap map, String text) {
-        feed(map, text);
-        return map.execute();
-    }
-
-    /** Wears a hole into a cell: three moths, one after the other, fly to it while it is the highest. */
-    private static void makeHole(DustSheetMap map, int row, int column) {
-        for (int night = 0; night < 3; night++) {
-            int before = map.height(row, column);
-            if (before != 99) {
-                map.setHeight(row, column, 99);
-            }
-            int moth = map.addMoth(row == 0 ? 1 : row - 1, column);
-            map.passNight();
-            map.removeMoth(moth);
-            if (before != 99) {
-                map.setHeight(row, column, before);
-            }
-        }
-    }
-
-    private static DustSheetMap withHole(int row, int column) {
-        DustSheetMap map = new DustSheetMap();
-        makeHole(map, row, column);
-        return map;
     }
 
     private static void newObject() {
