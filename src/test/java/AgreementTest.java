@@ -70,7 +70,7 @@ public final class AgreementTest {
         while (call < CALLS) {
             if (below(25) == 0) {
                 String text = text(spread);
-                for (int i = 0; i < text.length() && call < CALLS; i++, call++) {
+                for (int i = 0; i < text.length() && call < CALLS - 1; i++, call++) {
                     same(run, call, map, due, "feed", text.charAt(i));
                 }
                 same(run, call, map, due, "execute");

@@ -21,6 +21,7 @@ public final class BoundaryHeightsTest extends MapFixture {
         levels();
         islandsEmptyAndFull();
         islandsAtEdges();
+        islandsOfLaterCalls();
         Check.end();
     }
 
@@ -374,6 +375,9 @@ public final class BoundaryHeightsTest extends MapFixture {
         cell.setHeight(5, 5, 1);
         islandsAre("one cell", cell, 1, 1);
         islandsAre("none", cell, 2, 0);
+        DustSheetMap first = level(0);
+        first.setHeight(0, 0, 1);
+        islandsAre("the first cell alone", first, 1, 1);
         DustSheetMap ring = level(99);
         ring.setHeight(2, 2, 0);
         islandsAre("a ring", ring, 99, 1);
@@ -415,5 +419,19 @@ public final class BoundaryHeightsTest extends MapFixture {
         islandsAre("neighbours connect", corners, 60, 1);
         DustSheetMap holed = withHole(2, 2);
         islandsAre("a hole does not matter", holed, 50, 1);
+    }
+
+    private static void islandsOfLaterCalls() {
+        DustSheetMap map = new DustSheetMap();
+        map.setHeight(0, 0, 40);
+        map.setHeight(0, 1, 60);
+        map.setHeight(1, 0, 60);
+        islandsAre("all cells, then fewer", map, 40, 1);
+        islandsAre("the first cell keeps them apart", map, 60, 2);
+        islandsAre("none", map, 61, 0);
+        map.setHeight(0, 0, 60);
+        islandsAre("the first cell connects them", map, 60, 1);
+        map.setHeight(0, 0, 40);
+        islandsAre("it keeps them apart again", map, 60, 2);
     }
 }

@@ -22,6 +22,8 @@ public final class BoundaryRoutesTest extends MapFixture {
         holesAtEnds();
         noWay();
         oneWay();
+        roundOneHole();
+        firstAndLaterCalls();
         nothingChanges();
         Check.end();
     }
@@ -120,6 +122,14 @@ public final class BoundaryRoutesTest extends MapFixture {
         sides.setHeight(0, 2, 0);
         sides.setHeight(5, 2, 0);
         stepIs("opposite sides are no neighbours", sides, 2, 52, 99);
+        int[][] corners = {{0, 1, 10}, {0, 10, 1}, {5, 4, 15}, {5, 15, 4}, {50, 40, 51}, {50, 51, 40}, {55, 54, 45}, {55, 45, 54}};
+        for (int[] corner : corners) {
+            DustSheetMap angled = level(0);
+            angled.setHeight(corner[2] / 10, corner[2] % 10, 99);
+            stepIs("each corner has two neighbours", angled, corner[0], corner[1], 0);
+            costIs("each corner has two neighbours", angled, corner[0], corner[1], 1);
+            stepIs("each corner has two neighbours", angled, corner[1], corner[2], 99);
+        }
     }
 
     private static void dearest() {
@@ -210,6 +220,53 @@ public final class BoundaryRoutesTest extends MapFixture {
         stepIs("over a peak back", map, 50, 0, 49);
         costIs("a pit beside the way", map, 0, 44, 18 + 98 + 50);
         stepIs("into the pit", map, 0, 44, 50);
+    }
+
+    /** A hole does not connect its neighbours: the ways between them go round, over a peak on one side. */
+    private static void roundOneHole() {
+        int[][] besides = {{12, 21, 11}, {12, 23, 13}, {32, 21, 31}, {32, 23, 33}};
+        for (int[] beside : besides) {
+            DustSheetMap map = withHole(2, 2);
+            costIs("past a corner of the hole", map, beside[0], beside[1], 2);
+            map.setHeight(beside[2] / 10, beside[2] % 10, 51);
+            costIs("over the corner", map, beside[0], beside[1], 4);
+            stepIs("round the other side", map, beside[0], beside[1], 0);
+            map.setHeight(beside[0] / 10, beside[0] % 10, 60);
+            stepIs("down from the first cell", map, beside[0], beside[1], 9);
+        }
+        DustSheetMap map = withHole(1, 1);
+        map.setHeight(0, 0, 80);
+        map.setHeight(2, 0, 99);
+        costIs("the last way round", map, 1, 10, 62);
+        stepIs("the last way round", map, 1, 10, 30);
+        stepIs("the last way round", map, 10, 1, 30);
+    }
+
+    private static DustSheetMap bent() {
+        DustSheetMap map = new DustSheetMap();
+        map.setHeight(0, 1, 60);
+        map.setHeight(1, 1, 57);
+        map.setHeight(1, 0, 53);
+        return map;
+    }
+
+    private static void firstAndLaterCalls() {
+        Check.due("23: the first call", 11, () -> bent().routeCost(0, 0, 0, 1));
+        Check.due("24: the first call", 11, () -> bent().routeCostByRounds(0, 0, 0, 1));
+        Check.due("25: the first call", 4, () -> bent().steepestStep(0, 0, 0, 1));
+        Check.due("26: the first call", 4, () -> bent().steepestStepByHalving(0, 0, 0, 1));
+        Check.due("24: the first call", 10, () -> new DustSheetMap().routeCostByRounds(0, 0, 5, 5));
+        DustSheetMap map = new DustSheetMap();
+        costIs("a flat sheet", map, 0, 1, 1);
+        stepIs("a flat sheet", map, 0, 1, 0);
+        map.setHeight(0, 0, 99);
+        costIs("a peak that has come", map, 0, 1, 50);
+        stepIs("a peak that has come", map, 0, 1, 49);
+        costIs("other cells of the same sheet", map, 54, 55, 1);
+        stepIs("other cells of the same sheet", map, 54, 55, 0);
+        map.setHeight(0, 0, 51);
+        costIs("a peak that has gone", map, 0, 1, 2);
+        stepIs("a peak that has gone", map, 0, 1, 1);
     }
 
     private static void nothingChanges() {

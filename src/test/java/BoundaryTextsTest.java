@@ -136,6 +136,14 @@ public final class BoundaryTextsTest extends MapFixture {
         Check.due("44: the least and the greatest digits", 4, () -> run(map, "peg 00;peg 05;peg 50;peg 55"));
         Check.due("44: the row ahead of the column", 2, () -> run(map, "height 14=8;moth 14"));
         Check.due("44: the row ahead of the column", "8 50 14 ", () -> map.height(1, 4) + " " + map.height(4, 1) + " " + mothsOf(map));
+        DustSheetMap turned = new DustSheetMap();
+        wearDown(turned, 1, 4, 1);
+        Check.due("44: the row ahead of the column", "1 true false", () -> run(turned, "peg 14") + " " + turned.isPegged(1, 4)
+                + " " + turned.isPegged(4, 1));
+        Check.due("44: the row ahead of the column", "1 false", () -> run(turned, "free 14") + " " + turned.isPegged(1, 4));
+        Check.due("44: the row ahead of the column", "1 3 0", () -> run(turned, "pour 14 3") + " " + turned.water(1, 4)
+                + " " + turned.water(4, 1));
+        Check.due("44: the row ahead of the column", "1 0", () -> run(turned, "patch 14") + " " + turned.wear(1, 4));
         for (String cell : new String[] {"06", "60", "66", "09", "90", "99"}) {
             for (String text : new String[] {"height " + cell + "=1", "peg " + cell, "free " + cell, "pour " + cell + " 1",
                 "moth " + cell, "patch " + cell}) {

@@ -19,6 +19,7 @@ public final class BoundaryWaterTest extends MapFixture {
         spillAtBorder();
         spillInside();
         spillAtHoles();
+        spillFirstAndLater();
         pondsEmptyAndFull();
         Check.end();
     }
@@ -376,6 +377,32 @@ public final class BoundaryWaterTest extends MapFixture {
         spillIs("behind a wall", map, 24, 90);
         map.patch(2, 3);
         spillIs("a patched hole", map, 23, 90);
+    }
+
+    private static DustSheetMap pit() {
+        DustSheetMap map = new DustSheetMap();
+        map.setHeight(2, 2, 10);
+        return map;
+    }
+
+    private static void spillFirstAndLater() {
+        Check.due("20: the first call", 50, () -> pit().spillLevel(2, 2));
+        Check.due("21: the first call", 50, () -> pit().spillLevelByRounds(2, 2));
+        Check.due("22: the first call", 40, () -> pit().pondVolume());
+        for (int cell : new int[] {0, 55, 33}) {
+            Check.due("20: the first call", 50, () -> pit().spillLevel(cell / 10, cell % 10));
+            Check.due("21: the first call", 50, () -> pit().spillLevelByRounds(cell / 10, cell % 10));
+        }
+        DustSheetMap map = pit();
+        spillIs("ahead of a change", map, 22, 50);
+        for (int cell : new int[] {12, 23, 32, 21}) {
+            map.setHeight(cell / 10, cell % 10, 70);
+        }
+        spillIs("behind a rise", map, 22, 70);
+        Check.due("22: behind a rise", 60, () -> map.pondVolume());
+        map.setHeight(3, 2, 30);
+        spillIs("behind a fall", map, 22, 50);
+        Check.due("22: behind a fall", 40 + 20, () -> map.pondVolume());
     }
 
     private static void pondsEmptyAndFull() {

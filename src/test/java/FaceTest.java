@@ -71,7 +71,19 @@ public final class FaceTest {
             Check.same(inside + " is static and not public", "true", "" + (Modifier.isStatic(inside.getModifiers())
                     && !Modifier.isPublic(inside.getModifiers()) && !Modifier.isProtected(inside.getModifiers())));
         }
+        for (Class<?> inside : face.getDeclaredClasses()) {
+            Check.same(inside + " has some twenty fields at most", "true", "" + (fieldsOf(inside) <= 20));
+        }
+        Check.same("some twenty fields at most", "true", "" + (fieldsOf(face) <= 20));
         Check.same("at most twelve classes", "true", "" + (face.getDeclaredClasses().length + 1 <= 12));
+    }
+
+    private static int fieldsOf(Class<?> one) {
+        int count = 0;
+        for (java.lang.reflect.Field field : one.getDeclaredFields()) {
+            count += Modifier.isStatic(field.getModifiers()) ? 0 : 1;
+        }
+        return count;
     }
 
     private static void noPrivateMethodBearsAPublicName() {

@@ -1,3 +1,5 @@
+import java.util.function.Consumer;
+
 /** The promises of the document, one after the other: ordinary inputs, edges and wrong inputs. */
 public final class PromiseTest extends MapFixture {
     public static void main(String[] args) {
@@ -680,23 +682,22 @@ public final class PromiseTest extends MapFixture {
     }
 
     private static void textsThatFail() {
-        DustSheetMap map = new DustSheetMap();
-        textFails(map, "height 00=50", 0, 6);
-        textFails(map, "height 00=51;height 00=51", 1, 6);
-        textFails(map, "height 60=51", 0, 8);
-        textFails(map, "peg 00;peg 00", 1, 2);
-        textFails(map, "night;free 00", 1, 2);
-        textFails(map, "pour 00 5;pour 00 0", 1, 8);
-        textFails(map, "settle;pour 66 0", 1, 8);
-        textFails(map, "drape;swat 0", 1, 8);
-        textFails(map, "moth 00;moth 00", 1, 5);
-        textFails(map, "moth 00;moth 01;moth 02;moth 03;moth 04", 4, 1);
-        textFails(map, "moth 99", 0, 8);
-        textFails(map, "patch 06", 0, 8);
-        textFails(map, "patch 05", 0, 4);
-        makeHole(map, 3, 3);
-        textFails(map, "moth 33", 0, 3);
-        textFails(map, "patch 33;moth 33;night;swat 0;swat 0", 4, 8);
+        textFails(new DustSheetMap(), "height 00=50", 0, 6);
+        textFails(new DustSheetMap(), "height 00=51;height 00=51", 1, 6);
+        textFails(new DustSheetMap(), "height 60=51", 0, 8);
+        textFails(new DustSheetMap(), "peg 00;peg 00", 1, 2);
+        textFails(new DustSheetMap(), "night;free 00", 1, 2);
+        textFails(new DustSheetMap(), "pour 00 5;pour 00 0", 1, 8);
+        textFails(new DustSheetMap(), "settle;pour 66 0", 1, 8);
+        textFails(new DustSheetMap(), "drape;swat 0", 1, 8);
+        textFails(new DustSheetMap(), "moth 00;moth 00", 1, 5);
+        textFails(new DustSheetMap(), "moth 00;moth 01;moth 02;moth 03;moth 04", 4, 1);
+        textFails(new DustSheetMap(), "moth 99", 0, 8);
+        textFails(new DustSheetMap(), "patch 06", 0, 8);
+        textFails(new DustSheetMap(), "patch 05", 0, 4);
+        textFails(withHole(3, 3), "moth 33", 0, 3);
+        textFails(withHole(3, 3), "patch 33;moth 33;night;swat 0;swat 0", 4, 8);
+        DustSheetMap map = withHole(3, 3);
         map.pour(1, 1, 9);
         map.saveSnapshot();
         textFails(map, "height 33=0;pour 32 9;pour 33 9;settle;drape;free 11", 5, 2);
@@ -860,35 +861,43 @@ public final class PromiseTest extends MapFixture {
         });
     }
 
-    private static void undoes(DustSheetMap map, String what, Check.Call change) {
-        String before = sheetOf(map);
-        int count = map.undoCount();
-        change.run();
-        Check.due("52: " + what, Math.min(8, count + 1), () -> map.undoCount());
-        Check.same("51: " + what + " does something", "false", "" + before.equals(sheetOf(map)));
-        map.undo();
-        Check.same("51: undo of " + what, before, sheetOf(map));
-    }
-
-    private static void undoOfEachChange() {
+    /** A sheet on which each change alters something. */
+    private static DustSheetMap busy() {
         DustSheetMap map = new DustSheetMap();
         map.pour(2, 2, 7);
         map.setHeight(2, 3, 40);
         map.peg(1, 1);
         map.addMoth(4, 4);
         map.passNight();
-        undoes(map, "setHeight", () -> map.setHeight(0, 0, 3));
-        undoes(map, "peg", () -> map.peg(0, 0));
-        undoes(map, "unpeg", () -> map.unpeg(1, 1));
-        undoes(map, "drape", () -> map.drape());
-        undoes(map, "pour", () -> map.pour(5, 0, 3));
-        undoes(map, "settle", () -> map.settle());
-        undoes(map, "addMoth", () -> map.addMoth(0, 0));
-        undoes(map, "removeMoth", () -> map.removeMoth(0));
-        undoes(map, "passNight", () -> map.passNight());
+        return map;
+    }
+
+    private static void undoes(String what, Consumer<DustSheetMap> change) {
+        DustSheetMap map = busy();
+        String before = sheetOf(map);
+        change.accept(map);
+        Check.due("52: " + what, 6, () -> map.undoCount());
+        Check.same("51: " + what + " does something", "false", "" + before.equals(sheetOf(map)));
+        map.undo();
+        Check.same("51: undo of " + what, before, sheetOf(map));
+    }
+
+    private static void undoOfEachChange() {
+        undoes("setHeight", map -> map.setHeight(0, 0, 3));
+        undoes("peg", map -> map.peg(0, 0));
+        undoes("unpeg", map -> map.unpeg(1, 1));
+        undoes("drape", map -> map.drape());
+        undoes("pour", map -> map.pour(5, 0, 3));
+        undoes("settle", map -> map.settle());
+        undoes("addMoth", map -> map.addMoth(0, 0));
+        undoes("removeMoth", map -> map.removeMoth(0));
+        undoes("passNight", map -> map.passNight());
+        undoes("execute of a text that patches", map -> run(map, "swat 0;patch 34"));
+        undoes("execute", map -> run(map, "moth 00;night;night;pour 33 4;drape;settle"));
+        DustSheetMap map = busy();
         map.removeMoth(0);
-        undoes(map, "patch", () -> map.patch(3, 4));
-        undoes(map, "execute", () -> run(map, "moth 00;night;night;pour 33 4;drape;settle"));
+        map.patch(3, 4);
+        Check.due("51: undo of patch", "6 1", () -> map.undo() + " " + map.wear(3, 4));
         feed(map, "night");
         int length = map.writeRow(2);
         map.undo();
@@ -919,7 +928,7 @@ public final class PromiseTest extends MapFixture {
         map.passNight();
         map.undo();
         Check.due("54: the snapshot is kept", 2, () -> map.restoreSnapshot());
-        Check.same("54: everything", saved, sheetOf(map));
+        Check.due("54: the snapshot is kept", "40 1", () -> map.height(2, 3) + " " + map.nights());
         feed(map, "nig");
         int length = map.writeRow(2);
         map.restoreSnapshot();
