@@ -530,10 +530,12 @@ public final class DustSheetMap {
 
         void copyFrom(Sheet other) {
             System.arraycopy(other.heights, 0, heights, 0, CELLS);
-            System.arraycopy(other.pegs, 0, pegs, 0, CELLS);
             System.arraycopy(other.water, 0, water, 0, CELLS);
             System.arraycopy(other.wear, 0, wear, 0, CELLS);
             System.arraycopy(other.moths, 0, moths, 0, MOST_MOTHS);
+            for (int cell = 0; cell < CELLS; cell++) {
+                pegs[cell] = other.pegs[cell];
+            }
             mothCount = other.mothCount;
             nights = other.nights;
             poured = other.poured;
